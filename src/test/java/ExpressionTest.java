@@ -3,6 +3,7 @@ public final class ExpressionTest {
     public static void main(String[] args) {
         countsAndDepths();
         countsDoNotDependOnTheModulus();
+        eachFunctionHasItsOwn();
         refusals();
         Checks.end();
     }
@@ -19,7 +20,7 @@ public final class ExpressionTest {
             {"x*(x+1)", 5, 4, 3}, {"-5+-5", 5, 3, 3}, {"-51+-5", 5, 5, 3}, {"10+1+0", 5, 5, 3},
             {"x-x-x-x-x-x-x-x-x-x-x-x-x-x-x-x-x-x-x-x", 39, 20, 20}};
         for (Object[] row : due) {
-            HingeNumbers numbers = new HingeNumbers();
+            CountedNumbers numbers = new CountedNumbers();
             Checks.same("define by " + row[0], Checks.define(numbers, 2, (String) row[0]), (Integer) row[1]);
             Checks.same("nodes of " + row[0], numbers.nodesOf(2), (Integer) row[1]);
             Checks.same("unlike nodes of " + row[0], numbers.unlikeNodesOf(2), (Integer) row[2]);
@@ -30,7 +31,7 @@ public final class ExpressionTest {
             Checks.same("depth of the copy", numbers.depthOf(3), (Integer) row[3]);
             Checks.same("nodes of another", numbers.nodesOf(0), 1);
         }
-        HingeNumbers numbers = new HingeNumbers();
+        CountedNumbers numbers = new CountedNumbers();
         Checks.define(numbers, 0, "x*x*x");
         Checks.define(numbers, 1, "f(x)");
         Checks.same("the nodes of f are none of g", numbers.nodesOf(1), 2);
@@ -38,19 +39,48 @@ public final class ExpressionTest {
     }
 
     private static void countsDoNotDependOnTheModulus() {
-        HingeNumbers numbers = new HingeNumbers();
+        CountedNumbers numbers = new CountedNumbers();
         Checks.define(numbers, 0, "1+8+x");
         numbers.setModulus(7);
         Checks.same("1 and 8 are other numbers, also modulo 7", numbers.unlikeNodesOf(0), 5);
     }
 
+    // "function: 0 to 3": the first and the last, and what actions make of them
+    private static void eachFunctionHasItsOwn() {
+        CountedNumbers numbers = Checks.told(97, "x-x-x", "f(x)", "-x+1", "f(x)^2-(3+f(x))");
+        of(numbers, 0, 5, 3, 3);
+        of(numbers, 1, 2, 2, 2);
+        of(numbers, 2, 4, 4, 3);
+        of(numbers, 3, 8, 6, 4);
+        numbers.takeSnapshot();
+        numbers.copy(0, 2);
+        of(numbers, 0, 4, 4, 3);
+        Checks.define(numbers, 3, "10");
+        of(numbers, 3, 1, 1, 1);
+        numbers.undo();
+        of(numbers, 3, 8, 6, 4);
+        numbers.undo();
+        of(numbers, 0, 5, 3, 3);
+        numbers.copy(2, 3);
+        of(numbers, 2, 8, 6, 4);
+        numbers.restoreSnapshot();
+        of(numbers, 2, 4, 4, 3);
+    }
+
+    private static void of(CountedNumbers numbers, int function, int nodes, int unlike, int depth) {
+        Checks.same("nodes of " + function, numbers.nodesOf(function), nodes);
+        Checks.same("unlike nodes of " + function, numbers.unlikeNodesOf(function), unlike);
+        Checks.same("depth of " + function, numbers.depthOf(function), depth);
+    }
+
+    // "Throws IndexOutOfBoundsException if there is no such function"
     private static void refusals() {
-        HingeNumbers numbers = new HingeNumbers();
+        CountedNumbers numbers = new CountedNumbers();
         int[] bad = {-1, 4, 5, Integer.MAX_VALUE, Integer.MIN_VALUE};
         for (int function : bad) {
-            Checks.outOfBounds("nodesOf(" + function + ")", numbers, () -> numbers.nodesOf(function));
-            Checks.outOfBounds("unlikeNodesOf(" + function + ")", numbers, () -> numbers.unlikeNodesOf(function));
-            Checks.outOfBounds("depthOf(" + function + ")", numbers, () -> numbers.depthOf(function));
+            Checks.outOfBounds("nodesOf(" + function + ")", () -> numbers.nodesOf(function));
+            Checks.outOfBounds("unlikeNodesOf(" + function + ")", () -> numbers.unlikeNodesOf(function));
+            Checks.outOfBounds("depthOf(" + function + ")", () -> numbers.depthOf(function));
         }
     }
 }

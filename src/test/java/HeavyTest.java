@@ -12,7 +12,7 @@ public final class HeavyTest {
     }
 
     private static void nestedFunctions() {
-        HingeNumbers numbers = new HingeNumbers();
+        CountedNumbers numbers = new CountedNumbers();
         numbers.setModulus(199);
         Checks.define(numbers, 0, "x+1");
         Checks.same("nodes of 13 calls", Checks.define(numbers, 1, nested('f')), 14);
@@ -21,7 +21,7 @@ public final class HeavyTest {
         Checks.same("13^3 times 1 more", numbers.valueAt(3, 5), (5 + 13 * 13 * 13) % 199);
         Checks.same("its slope by hinges", numbers.slopeByHinges(3, 5), 1);
         Checks.same("its slope by rules", numbers.slopeByRules(3, 5), 1);
-        for (int call = 0; call < 200; call++) {
+        for (int call = 0; call < 20; call++) {
             Checks.define(numbers, 0, call % 2 == 0 ? "3*x" : "x^3+1");
             Checks.same("bans", numbers.bansOf(3), 0);
             Checks.same("flats", numbers.flatsOf(3) >= 0, true);
@@ -40,13 +40,13 @@ public final class HeavyTest {
     private static void deepTexts() {
         String[] parts = {"(", "-", "f(", "(-", "f((", "x+(", "x^2*("};
         for (String part : parts) {
-            HingeNumbers numbers = new HingeNumbers();
+            CountedNumbers numbers = new CountedNumbers();
             String text = Checks.repeated(part, 40 / part.length());
             Checks.write(numbers, text);
             Checks.same("too early: " + text, numbers.textError(), text.length());
-            Checks.badState("define by " + text, numbers, () -> numbers.define(3));
+            Checks.badState("define by " + text, () -> numbers.define(3));
         }
-        HingeNumbers numbers = new HingeNumbers();
+        CountedNumbers numbers = new CountedNumbers();
         Checks.define(numbers, 0, Checks.repeated("-(", 13) + "x" + Checks.repeated(")", 13));
         Checks.same("13 times -", numbers.valueAt(0, 1), 96);
         Checks.same("depth of 13 times -", numbers.depthOf(0), 14);
@@ -59,19 +59,19 @@ public final class HeavyTest {
 
     /** What 512 calls keep or make must stay small. */
     private static void manyObjectsAndCalls() {
-        HingeNumbers numbers = new HingeNumbers();
+        CountedNumbers numbers = new CountedNumbers();
         Checks.define(numbers, 0, Checks.repeated("-", 39) + "x");
         com.sun.management.ThreadMXBean threads =
                 (com.sun.management.ThreadMXBean) java.lang.management.ManagementFactory.getThreadMXBean();
         long self = Thread.currentThread().getId();
         long before = threads.getThreadAllocatedBytes(self);
-        for (int call = 0; call < 512; call++) {
+        for (int call = 0; call < 256; call++) {
             numbers.define(call % 4);
         }
         long bytes = threads.getThreadAllocatedBytes(self) - before;
-        Checks.same("512 calls of define make less than a MB", bytes < 1_000_000, true);
+        Checks.same("256 calls of define make less than half a MB", bytes < 500_000, true);
         before = threads.getThreadAllocatedBytes(self);
-        for (int call = 0; call < 100; call++) {
+        for (int call = 0; call < 40; call++) {
             numbers.flatsOf(3);
             numbers.stepsToRoot(2, 50);
             numbers.chainByProducts(3, 2, 1);
@@ -79,6 +79,6 @@ public final class HeavyTest {
             numbers.textError();
         }
         bytes = threads.getThreadAllocatedBytes(self) - before;
-        Checks.same("calls that ask make nothing", bytes < 20_000, true);
+        Checks.same("calls that ask make nothing", bytes < 8_000, true);
     }
 }

@@ -5,11 +5,10 @@ import java.util.Random;
  * must answer alike.
  */
 public final class ModelTest {
-    private static final int RUNS = 300;
-    private static final int CALLS = 512;
+    private static final int RUNS = 400;
 
     private final Random random;
-    private final HingeNumbers numbers = new HingeNumbers();
+    private final CountedNumbers numbers = new CountedNumbers();
     private final Model model = new Model();
     private final StringBuilder story = new StringBuilder();
 
@@ -19,33 +18,28 @@ public final class ModelTest {
 
     public static void main(String[] args) {
         for (int seed = 1; seed <= RUNS; seed++) {
-            new ModelTest(seed).run(seed);
+            new ModelTest(seed).run();
         }
         Checks.end();
     }
 
-    private void run(int seed) {
-        int calls = 0;
-        while (calls < CALLS) {
+    private void run() {
+        while (numbers.callsLeft() >= 2) {
             if (random.nextInt(5) == 0) {
-                calls += writeText(CALLS - calls);
+                writeText();
             } else {
                 anyCall();
-                calls++;
             }
         }
     }
 
-    private int writeText(int most) {
+    private void writeText() {
         String text = random.nextInt(4) == 0 ? spoiled(sum(4, random.nextInt(5))) : sum(4, random.nextInt(5));
         call("clearText()", numbers::clearText, model::clearText);
-        int typed = 0;
-        while (typed < text.length() && typed < most - 1 && typed < 41) {
+        for (int typed = 0; typed < text.length() && typed < 41 && numbers.callsLeft() > 0; typed++) {
             char character = text.charAt(typed);
             call("type " + character, () -> numbers.type(character), () -> model.type(character));
-            typed++;
         }
-        return typed + 1;
     }
 
     private String sum(int depth, int functions) {

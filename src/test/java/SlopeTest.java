@@ -7,12 +7,17 @@ public final class SlopeTest {
         functionsOfFunctions();
         bannedValues();
         chains();
-        refusals();
+        chainsAgreeEverywhere();
+        chainsOfBannedValues();
+        chainsAtTheEndsOfX();
+        lastGoodXAndFirstBadX();
+        rangeOfXFollowsTheModulus();
+        functionIsLookedAtFirst();
         Checks.end();
     }
 
     private static void modulus() {
-        HingeNumbers numbers = new HingeNumbers();
+        CountedNumbers numbers = new CountedNumbers();
         Checks.same("modulus", numbers.modulus(), 97);
         numbers.setModulus(199);
         Checks.same("modulus", numbers.modulus(), 199);
@@ -21,7 +26,7 @@ public final class SlopeTest {
     }
 
     private static void at(int prime, String text, int x, int value, int slope) {
-        HingeNumbers numbers = new HingeNumbers();
+        CountedNumbers numbers = new CountedNumbers();
         numbers.setModulus(prime);
         Checks.define(numbers, 0, text);
         String where = text + " at " + x + " modulo " + prime;
@@ -88,7 +93,7 @@ public final class SlopeTest {
     }
 
     private static void functionsOfFunctions() {
-        HingeNumbers numbers = new HingeNumbers();
+        CountedNumbers numbers = new CountedNumbers();
         Checks.define(numbers, 0, "x^2+1");
         Checks.define(numbers, 1, "f(3*x)");
         Checks.define(numbers, 2, "g(x)*f(x)");
@@ -121,7 +126,7 @@ public final class SlopeTest {
         at(97, "1/(1/x)", 0, -1, -1);
         at(97, "x^0/x^0", 0, 1, 0);
         at(97, "x/x", 0, -1, -1);
-        HingeNumbers numbers = new HingeNumbers();
+        CountedNumbers numbers = new CountedNumbers();
         Checks.define(numbers, 0, "5");
         Checks.define(numbers, 1, "f(1/x)");
         Checks.define(numbers, 2, "1/(x-4)");
@@ -137,12 +142,10 @@ public final class SlopeTest {
         Checks.same("its slope there", numbers.slopeByHinges(3, 4), 0);
     }
 
+    // Promises 19 and 20: "the slope of the outer one at the value of the inner one, times the slope
+    // of the inner one"
     private static void chains() {
-        HingeNumbers numbers = new HingeNumbers();
-        Checks.define(numbers, 0, "x^2");
-        Checks.define(numbers, 1, "3*x+1");
-        Checks.define(numbers, 2, "1/(x-4)");
-        Checks.define(numbers, 3, "f(x)/g(x)");
+        CountedNumbers numbers = Checks.told(97, "x^2", "3*x+1", "1/(x-4)", "f(x)/g(x)");
         both(numbers, 0, 1, 1, 24);
         both(numbers, 1, 0, 1, 6);
         both(numbers, 0, 0, 2, 32);
@@ -151,51 +154,136 @@ public final class SlopeTest {
         both(numbers, 2, 0, 2, -1);
         both(numbers, 1, 2, 4, -1);
         both(numbers, 2, 2, 4, -1);
-        for (int x = 0; x < 97; x++) {
-            for (int pair = 0; pair < 16; pair++) {
-                Checks.same("the chains agree", numbers.chainByFeeding(pair / 4, pair % 4, x),
-                        numbers.chainByProducts(pair / 4, pair % 4, x));
-            }
-        }
         Checks.define(numbers, 0, "0");
         both(numbers, 0, 2, 4, -1);
         both(numbers, 2, 0, 0, 0);
         both(numbers, 0, 1, 3, 0);
     }
 
-    private static void both(HingeNumbers numbers, int outer, int inner, int x, int slope) {
+    private static void both(CountedNumbers numbers, int outer, int inner, int x, int slope) {
         String what = " of " + outer + " of " + inner + " at " + x;
         Checks.same("by products" + what, numbers.chainByProducts(outer, inner, x), slope);
         Checks.same("by feeding" + what, numbers.chainByFeeding(outer, inner, x), slope);
     }
 
-    private static void refusals() {
-        HingeNumbers numbers = new HingeNumbers();
-        numbers.setModulus(5);
-        int[] bad = {-1, 4, 97, Integer.MAX_VALUE, Integer.MIN_VALUE};
-        for (int f : bad) {
-            Checks.outOfBounds("valueAt", numbers, () -> numbers.valueAt(f, 0));
-            Checks.outOfBounds("valueAt, x bad too", numbers, () -> numbers.valueAt(f, 5));
-            Checks.outOfBounds("slopeByHinges", numbers, () -> numbers.slopeByHinges(f, 0));
-            Checks.outOfBounds("slopeByHinges, x bad too", numbers, () -> numbers.slopeByHinges(f, -1));
-            Checks.outOfBounds("slopeByRules", numbers, () -> numbers.slopeByRules(f, 0));
-            Checks.outOfBounds("slopeByRules, x bad too", numbers, () -> numbers.slopeByRules(f, 5));
-            Checks.outOfBounds("chainByProducts outer", numbers, () -> numbers.chainByProducts(f, 0, 5));
-            Checks.outOfBounds("chainByProducts inner", numbers, () -> numbers.chainByProducts(0, f, -1));
-            Checks.outOfBounds("chainByFeeding outer", numbers, () -> numbers.chainByFeeding(f, 0, 5));
-            Checks.outOfBounds("chainByFeeding inner", numbers, () -> numbers.chainByFeeding(0, f, -1));
-            Checks.outOfBounds("chainByFeeding inner, x good", numbers, () -> numbers.chainByFeeding(3, f, 1));
+    /** Any function may be the outer one of any other, also of itself and of a greater one. */
+    private static void chainsAgreeEverywhere() {
+        for (int outer = 0; outer < 4; outer++) {
+            for (int inner = 0; inner < 4; inner++) {
+                CountedNumbers numbers = Checks.told(53, "x^2", "3*x+1", "1/(x-4)", "f(x)/g(x)");
+                for (int x = 0; x < 53; x++) {
+                    int middle = numbers.valueAt(inner, x);
+                    int outerSlope = middle == -1 ? -1 : numbers.slopeByHinges(outer, middle);
+                    int innerSlope = numbers.slopeByRules(inner, x);
+                    both(numbers, outer, inner, x, outerSlope == -1 ? -1 : outerSlope * innerSlope % 53);
+                }
+            }
         }
-        int[] badX = {-1, 5, 6, 96, Integer.MAX_VALUE, Integer.MIN_VALUE};
-        for (int x : badX) {
-            Checks.badArgument("valueAt " + x, numbers, () -> numbers.valueAt(0, x));
-            Checks.badArgument("slopeByHinges " + x, numbers, () -> numbers.slopeByHinges(1, x));
-            Checks.badArgument("slopeByRules " + x, numbers, () -> numbers.slopeByRules(2, x));
-            Checks.badArgument("chainByProducts " + x, numbers, () -> numbers.chainByProducts(0, 3, x));
-            Checks.badArgument("chainByFeeding " + x, numbers, () -> numbers.chainByFeeding(3, 0, x));
+    }
+
+    // "Returns the slope; NONE if a value is banned."
+    private static void chainsOfBannedValues() {
+        CountedNumbers numbers = Checks.told(97, "7", "1/x", "x^2", "1/(x-7)");
+        both(numbers, 0, 1, 0, -1);
+        both(numbers, 0, 1, 1, 0);
+        both(numbers, 2, 1, 0, -1);
+        both(numbers, 1, 2, 0, -1);
+        both(numbers, 1, 1, 0, -1);
+        both(numbers, 1, 1, 5, 1);
+        both(numbers, 3, 0, 5, -1);
+        both(numbers, 0, 3, 7, -1);
+        both(numbers, 0, 3, 8, 0);
+        both(numbers, 0, 0, 96, 0);
+        Checks.define(numbers, 0, "1/0");
+        both(numbers, 0, 2, 5, -1);
+        both(numbers, 2, 0, 5, -1);
+    }
+
+    private static void chainsAtTheEndsOfX() {
+        for (int prime : Checks.PRIMES) {
+            CountedNumbers numbers = Checks.told(prime, "x-1", "x+1", "x^2", "1/x");
+            both(numbers, 2, 0, 0, Math.floorMod(-2, prime));
+            both(numbers, 2, 1, prime - 1, 0);
+            both(numbers, 3, 1, prime - 1, -1);
+            both(numbers, 3, 0, 0, prime - 1);
+            both(numbers, 0, 3, 0, -1);
+            both(numbers, 2, 2, prime - 1, Math.floorMod(-4, prime));
         }
-        Checks.same("the greatest x", numbers.valueAt(3, 4), 4);
+    }
+
+    // "x: 0 to the modulus less 1", "Throws IllegalArgumentException if x is out of range"
+    private static void lastGoodXAndFirstBadX() {
+        for (int prime : new int[] {2, 3, 5, 97, 199}) {
+            for (int f = 0; f < 4; f++) {
+                CountedNumbers numbers = new CountedNumbers();
+                numbers.setModulus(prime);
+                allAt(numbers, f, 0);
+                allAt(numbers, f, prime - 1);
+                int[] bad = {-1, prime, prime + 1, Integer.MAX_VALUE, Integer.MIN_VALUE};
+                for (int x : bad) {
+                    noneAt(numbers, f, x);
+                }
+            }
+        }
+    }
+
+    private static void allAt(CountedNumbers numbers, int f, int x) {
+        Checks.same("value of x", numbers.valueAt(f, x), x);
+        Checks.same("slope of x by hinges", numbers.slopeByHinges(f, x), 1);
+        Checks.same("slope of x by rules", numbers.slopeByRules(f, x), 1);
+        both(numbers, f, 3 - f, x, 1);
+    }
+
+    private static void noneAt(CountedNumbers numbers, int f, int x) {
+        Checks.badArgument("valueAt " + x, () -> numbers.valueAt(f, x));
+        Checks.badArgument("slopeByHinges " + x, () -> numbers.slopeByHinges(f, x));
+        Checks.badArgument("slopeByRules " + x, () -> numbers.slopeByRules(f, x));
+        Checks.badArgument("chainByProducts " + x, () -> numbers.chainByProducts(f, 3 - f, x));
+        Checks.badArgument("chainByFeeding " + x, () -> numbers.chainByFeeding(f, 3 - f, x));
+    }
+
+    private static void rangeOfXFollowsTheModulus() {
+        CountedNumbers numbers = new CountedNumbers();
+        allAt(numbers, 3, 96);
+        noneAt(numbers, 3, 97);
+        numbers.takeSnapshot();
+        numbers.setModulus(199);
+        allAt(numbers, 3, 97);
+        allAt(numbers, 3, 198);
+        numbers.setModulus(2);
+        noneAt(numbers, 3, 2);
+        noneAt(numbers, 3, 96);
         numbers.undo();
-        Checks.same("the greatest x modulo 97", numbers.valueAt(3, 96), 96);
+        allAt(numbers, 3, 198);
+        noneAt(numbers, 3, 199);
+        numbers.restoreSnapshot();
+        allAt(numbers, 3, 96);
+        noneAt(numbers, 3, 97);
+    }
+
+    // "Throws IndexOutOfBoundsException if there is no such function", which is listed first
+    private static void functionIsLookedAtFirst() {
+        CountedNumbers numbers = new CountedNumbers();
+        int[] bad = {-1, 4, Integer.MAX_VALUE, Integer.MIN_VALUE};
+        int[] xs = {0, 96, 97, -1};
+        for (int f : bad) {
+            for (int x : xs) {
+                Checks.outOfBounds("valueAt", () -> numbers.valueAt(f, x));
+                Checks.outOfBounds("slopeByHinges", () -> numbers.slopeByHinges(f, x));
+                Checks.outOfBounds("slopeByRules", () -> numbers.slopeByRules(f, x));
+                Checks.outOfBounds("chainByProducts outer", () -> numbers.chainByProducts(f, 0, x));
+                Checks.outOfBounds("chainByProducts inner", () -> numbers.chainByProducts(3, f, x));
+                Checks.outOfBounds("chainByFeeding outer", () -> numbers.chainByFeeding(f, 0, x));
+                Checks.outOfBounds("chainByFeeding inner", () -> numbers.chainByFeeding(3, f, x));
+            }
+        }
+        CountedNumbers banned = Checks.told(97, "1/0");
+        Checks.outOfBounds("no outer function of a banned value", () -> banned.chainByProducts(4, 0, 0));
+        Checks.outOfBounds("no outer function of a banned value", () -> banned.chainByFeeding(4, 0, 0));
+        Checks.badArgument("a bad x of a banned value", () -> banned.valueAt(0, 97));
+        Checks.badArgument("a bad x of a banned value", () -> banned.slopeByHinges(0, -1));
+        Checks.badArgument("a bad x of a banned value", () -> banned.slopeByRules(0, 97));
+        Checks.badArgument("a bad x of a banned value", () -> banned.chainByProducts(3, 0, 97));
+        Checks.badArgument("a bad x of a banned value", () -> banned.chainByFeeding(3, 0, -1));
     }
 }
