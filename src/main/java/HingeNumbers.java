@@ -407,8 +407,8 @@ public final class HingeNumbers {
         private final int[] cells;
 
         Table(int width) {
-            this.width = Math.max(0, width);
-            cells = new int[FUNCTIONS * Math.max(0, width)];
+            this.width = Math.min(Math.max(0, width), GREATEST_MODULUS);
+            cells = new int[FUNCTIONS * this.width];
         }
 
         void fill(int number) {

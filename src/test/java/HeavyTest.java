@@ -4,6 +4,7 @@ public final class HeavyTest {
         nestedFunctions();
         deepTexts();
         manyObjectsAndCalls();
+        noCallFailsByItself();
         Checks.end();
     }
 
@@ -80,5 +81,86 @@ public final class HeavyTest {
         }
         bytes = threads.getThreadAllocatedBytes(self) - before;
         Checks.same("calls that ask make nothing", bytes < 8_000, true);
+    }
+
+    /**
+     * What calls answer after the 512th is free, but LANGUAGE rule 7 holds for any arguments in any
+     * state: what comes out of a call must have been thrown by a method of the face itself.
+     */
+    private static void noCallFailsByItself() {
+        java.util.Random random = new java.util.Random(7);
+        int[] ends = {Integer.MIN_VALUE, -200, -2, -1, 0, 1, 2, 3, 4, 5, 6, 96, 97, 198, 199, 200, Integer.MAX_VALUE};
+        String signs = "xxx123-+*/^(()))fgh\uffff";
+        for (int object = 0; object < 20; object++) {
+            HingeNumbers numbers = new HingeNumbers();
+            for (int call = 0; call < 5000; call++) {
+                int first = random.nextBoolean() ? random.nextInt(4) : ends[random.nextInt(ends.length)];
+                int second = random.nextBoolean() ? random.nextInt(4) : ends[random.nextInt(ends.length)];
+                int third = random.nextBoolean() ? random.nextInt(7) : ends[random.nextInt(ends.length)];
+                char sign = signs.charAt(random.nextInt(signs.length()));
+                int kind = random.nextInt(40);
+                byFace("call kind " + kind, () -> anyCall(numbers, kind, sign, first, second, third));
+            }
+        }
+    }
+
+    private static void byFace(String what, Checks.Call call) {
+        String thrower = "";
+        try {
+            call.answer();
+        } catch (RuntimeException thrown) {
+            StackTraceElement top = thrown.getStackTrace()[0];
+            boolean isPlain = thrown.getClass() == IllegalStateException.class
+                    || thrown.getClass() == IllegalArgumentException.class
+                    || thrown.getClass() == IndexOutOfBoundsException.class;
+            thrower = isPlain && top.getClassName().equals("HingeNumbers") ? "" : thrown.toString();
+        } catch (StackOverflowError | OutOfMemoryError thrown) {
+            thrower = thrown.toString();
+        }
+        Checks.same(what + " fails by itself " + thrower, thrower.isEmpty(), true);
+    }
+
+    private static final String[] TEXTS = {"1/x", "f(x)^9/(x-1)", "x-g(f(x)/h(2))", Checks.repeated("-", 39) + "x",
+        Checks.repeated("h(", 13) + "x" + Checks.repeated(")", 13), Checks.repeated("x*", 19) + "99", "999/f(x^2)"};
+
+    private static long typeAll(HingeNumbers numbers, String text) {
+        numbers.clearText();
+        for (char sign : text.toCharArray()) {
+            numbers.type(sign);
+        }
+        return numbers.textError();
+    }
+
+    private static long anyCall(HingeNumbers numbers, int kind, char sign, int first, int second, int third) {
+        return switch (kind) {
+            case 0, 1, 2 -> numbers.define(first);
+            case 3 -> numbers.copy(first, second);
+            case 4 -> numbers.setModulus(third);
+            case 5 -> numbers.clearText();
+            case 6 -> numbers.textError();
+            case 7 -> numbers.leastToDefine();
+            case 8 -> numbers.undo();
+            case 9 -> numbers.takeSnapshot();
+            case 10 -> numbers.restoreSnapshot();
+            case 11 -> numbers.nodesOf(first);
+            case 12 -> numbers.unlikeNodesOf(first);
+            case 13 -> numbers.depthOf(first);
+            case 14 -> numbers.modulus();
+            case 15 -> numbers.valueAt(first, third);
+            case 16 -> numbers.slopeByHinges(first, third);
+            case 17 -> numbers.slopeByRules(first, third);
+            case 18 -> numbers.chainByProducts(first, second, third);
+            case 19 -> numbers.chainByFeeding(first, second, third);
+            case 20 -> numbers.bansOf(first);
+            case 21 -> numbers.flatsOf(first);
+            case 22 -> numbers.firstFlat(first);
+            case 23 -> numbers.rootsOf(first);
+            case 24 -> numbers.isSame(first, second) ? 1 : 0;
+            case 25 -> numbers.step(first, third);
+            case 26 -> numbers.stepsToRoot(first, third);
+            case 27 -> numbers.recordedStates();
+            case 28, 29 -> typeAll(numbers, TEXTS[Math.floorMod(third, TEXTS.length)]);
+            default -> numbers.type(sign);
+        };
     }
 }
